@@ -1,0 +1,59 @@
+import java.lang.reflect.Method;
+import java.util.Random;
+
+/** Far behind the promised 512 calls answers are free, but still no call may throw. */
+public final class EnduranceTest {
+    private static final int OBJECTS = 20;
+    private static final int CALLS = 20_000;
+    private static final int TICKETS = 600;
+
+    private static final int[] EDGES = {Integer.MIN_VALUE, -1, 0, 1, 2, 3, 5, 6, 7, 12, 13, 17, 39, 40, 399, 511, 512, 513, 7300,
+        1000000, 10000000, Integer.MAX_VALUE};
+    private static final float[] WEIGHTS = {Float.NaN, 0f, -0f, 1f, 9999.999f, 10000f, Float.MAX_VALUE, Float.NEGATIVE_INFINITY};
+
+    public static void main(String[] arguments) throws ReflectiveOperationException {
+        for (int seed = 0; seed < OBJECTS; seed++) {
+            callWildly(new Random(seed));
+        }
+        fillWithTickets();
+        System.out.println(OBJECTS + " objects bore " + CALLS + " wild calls each");
+    }
+
+    private static void callWildly(Random random) throws ReflectiveOperationException {
+        PledgeHouse house = new PledgeHouse();
+        Method[] methods = PledgeHouse.class.getMethods();
+        for (int i = 0; i < CALLS; i++) {
+            Method method = methods[random.nextInt(methods.length)];
+            if (method.getDeclaringClass() == PledgeHouse.class) {
+                method.invoke(house, wildArguments(method, random));
+            }
+        }
+    }
+
+    private static Object[] wildArguments(Method method, Random random) {
+        Class<?>[] types = method.getParameterTypes();
+        Object[] wild = new Object[types.length];
+        for (int i = 0; i < wild.length; i++) {
+            if (types[i] == float.class) {
+                wild[i] = WEIGHTS[random.nextInt(WEIGHTS.length)];
+            } else {
+                wild[i] = random.nextBoolean() ? EDGES[random.nextInt(EDGES.length)] : random.nextInt(40);
+            }
+        }
+        return wild;
+    }
+
+    private static void fillWithTickets() {
+        PledgeHouse house = new PledgeHouse();
+        for (int i = 0; i < TICKETS; i++) {
+            house.thing(0, 1000);
+            house.lend(0, 500, 1);
+            house.image();
+            int ticket = (int) house.sum(12);
+            house.redeem(ticket, house.half(), house.told(ticket, 1) + house.told(ticket, 2));
+            house.back();
+            house.redeem(ticket, house.half(), house.told(ticket, 1) + house.told(ticket, 2));
+            house.check();
+        }
+    }
+}
