@@ -6,6 +6,7 @@ public final class EnduranceTest {
     private static final int OBJECTS = 20;
     private static final int CALLS = 20_000;
     private static final int TICKETS = 600;
+    private static final int ROOM = 511;
 
     private static final int[] EDGES = {Integer.MIN_VALUE, -1, 0, 1, 2, 3, 5, 6, 7, 12, 13, 17, 39, 40, 399, 511, 512, 513, 7300,
         1000000, 10000000, Integer.MAX_VALUE};
@@ -43,16 +44,21 @@ public final class EnduranceTest {
         return wild;
     }
 
+    /** No run of 512 calls can write 511 tickets, so that there is no more room shows only here. */
     private static void fillWithTickets() {
         PledgeHouse house = new PledgeHouse();
-        for (int i = 0; i < TICKETS; i++) {
+        for (int number = 1; number <= TICKETS; number++) {
             house.thing(0, 1000);
-            house.lend(0, 500, 1);
+            int answer = house.lend(0, 500, 1);
+            int due = number <= ROOM ? number : -7;
+            if (answer != due) {
+                System.out.println("lend(0, 500, 1) answered " + answer + ", due is " + due);
+                System.exit(1);
+            }
             house.image();
-            int ticket = (int) house.sum(12);
-            house.redeem(ticket, house.half(), house.told(ticket, 1) + house.told(ticket, 2));
+            house.redeem(number, house.half(), house.told(number, 1) + house.told(number, 2));
             house.back();
-            house.redeem(ticket, house.half(), house.told(ticket, 1) + house.told(ticket, 2));
+            house.redeem(number, house.half(), house.told(number, 1) + house.told(number, 2));
             house.check();
         }
     }
