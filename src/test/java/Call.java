@@ -1,11 +1,19 @@
 import java.lang.reflect.InvocationTargetException;
 import java.lang.reflect.Method;
 import java.util.ArrayList;
+import java.util.HashMap;
 import java.util.List;
+import java.util.Map;
+import java.util.Set;
 
 /** One call of the face, by its name and its arguments, which any object with that face can answer. */
 final class Call {
-    private final String name;
+    private static final Set<String> LOOKING = Set.of("place", "told", "half", "sum", "as", "check", "status");
+
+    /** Asking a class for its methods is dear, and tests make millions of calls. */
+    private static final Map<Class<?>, Map<String, Method>> METHODS = new HashMap<>();
+
+    final String name;
     private final List<Number> arguments = new ArrayList<>();
 
     Call(String name, Number... arguments) {
@@ -22,37 +30,49 @@ final class Call {
         }
         Call call = new Call(text.substring(0, open).trim());
         String inside = text.substring(open + 1, close).trim();
-        if (inside.isEmpty()) {
-            return call;
+        String[] written = inside.isEmpty() ? new String[0] : inside.split(",");
+        Class<?>[] types = call.find(PledgeHouse.class).getParameterTypes();
+        if (types.length != written.length) {
+            throw new IllegalArgumentException("not as many arguments as due: " + text);
         }
-        Class<?>[] types = call.find(PledgeHouse.class, inside.split(",").length).getParameterTypes();
-        int at = 0;
-        for (String argument : inside.split(",")) {
-            boolean isFloat = types[at++] == float.class;
-            if (isFloat) {
-                call.arguments.add(Float.valueOf(argument.trim()));
+        for (int i = 0; i < types.length; i++) {
+            String argument = written[i].trim();
+            if (types[i] == float.class) {
+                call.arguments.add(Float.valueOf(argument));
             } else {
-                call.arguments.add(Integer.valueOf(argument.trim()));
+                call.arguments.add(Integer.valueOf(argument));
             }
         }
         return call;
     }
 
-    private Method find(Class<?> type, int count) {
+    boolean isLooking() {
+        return LOOKING.contains(name);
+    }
+
+    private Method find(Class<?> type) {
+        Method method = METHODS.computeIfAbsent(type, Call::methodsOf).get(name);
+        if (method == null) {
+            throw new IllegalArgumentException("no method " + name);
+        }
+        return method;
+    }
+
+    private static Map<String, Method> methodsOf(Class<?> type) {
+        Map<String, Method> methods = new HashMap<>();
         for (Method method : type.getDeclaredMethods()) {
-            if (method.getName().equals(name) && method.getParameterCount() == count) {
-                return method;
+            if (!method.isSynthetic()) {
+                method.setAccessible(true);
+                methods.put(method.getName(), method);
             }
         }
-        throw new IllegalArgumentException("no method " + name + " with " + count + " arguments");
+        return methods;
     }
 
     /** What the object answers; what it throws is told as a text. */
     String answerOf(Object house) {
         try {
-            Method method = find(house.getClass(), arguments.size());
-            method.setAccessible(true);
-            return String.valueOf(method.invoke(house, arguments.toArray()));
+            return String.valueOf(find(house.getClass()).invoke(house, arguments.toArray()));
         } catch (InvocationTargetException thrown) {
             return "thrown " + thrown.getCause();
         } catch (IllegalAccessException hidden) {

@@ -1,74 +1,123 @@
 import java.io.IOException;
-import java.nio.file.Files;
 import java.nio.file.Path;
+import java.util.ArrayList;
 import java.util.List;
-import java.util.TreeSet;
 
 /**
- * The runs under src/test/runs, one file for each promise, its number ahead of its name. A row is a call
- * and the answer that is due; a row "new" makes a new object; what is behind a # is a remark.
+ * The runs under src/test/runs and src/test/sentences. Each is called as it is written, and then again: with status()
+ * behind each call, without the calls that are refused, without those that look, and with all looks ahead of and
+ * behind each refused call.
  */
 public final class RunsTest {
     private static final int PROMISES = 35;
-    private static final int MOST_CALLS = 512;
 
     private static int wrong;
-    private static int rows;
+    private static int calls;
+    private static int refused;
 
     public static void main(String[] arguments) throws IOException {
-        TreeSet<Path> files = new TreeSet<>();
-        try (var listed = Files.list(Path.of(arguments[0]))) {
-            listed.filter(file -> file.toString().endsWith(".txt")).forEach(files::add);
-        }
+        List<Run> runs = Run.readAll(Path.of(arguments[0], "runs"));
         for (int promise = 1; promise <= PROMISES; promise++) {
-            lookForPromise(files, String.format("%02d-", promise));
+            lookForPromise(runs, String.format("%02d-", promise));
         }
-        for (Path file : files) {
-            runFile(file.getFileName().toString(), Files.readAllLines(file));
+        runs.addAll(Run.readAll(Path.of(arguments[0], "sentences")));
+        for (Run run : runs) {
+            if (areAnswersDue(run)) {
+                statusIsThatOfTheLatestAct(run);
+                othersAnswerAlikeWithoutRefused(run);
+                actsAnswerAlikeWithoutLooks(run);
+                refusedChangeNothing(run);
+            }
         }
-        System.out.println(rows + " calls of " + files.size() + " files, " + wrong + " wrong");
+        System.out.println(calls + " calls of " + runs.size() + " runs, " + refused + " of them refused, " + wrong + " wrong");
         if (wrong != 0) {
             System.exit(1);
         }
     }
 
-    private static void lookForPromise(TreeSet<Path> files, String start) {
-        if (files.stream().noneMatch(file -> file.getFileName().toString().startsWith(start))) {
-            wrong++;
-            System.out.println("no runs for promise " + start);
+    private static void lookForPromise(List<Run> runs, String start) {
+        if (runs.stream().noneMatch(run -> run.file.startsWith(start))) {
+            tell("no runs for promise " + start);
         }
     }
 
-    private static void runFile(String file, List<String> lines) {
+    private static void tell(String fault) {
+        wrong++;
+        System.out.println(fault);
+    }
+
+    private static boolean isDue(PledgeHouse house, Run.Row row, String how) {
+        String got = row.call.answerOf(house);
+        if (got.equals(row.due)) {
+            return true;
+        }
+        tell(row.where + how + ": " + row.call + " answered " + got + ", due is " + row.due);
+        return false;
+    }
+
+    private static boolean areAnswersDue(Run run) {
         PledgeHouse house = new PledgeHouse();
-        int calls = 0;
-        for (int i = 0; i < lines.size(); i++) {
-            String line = lines.get(i).replaceFirst("#.*", "").trim();
-            if (line.equals("new")) {
-                house = new PledgeHouse();
-                calls = 0;
-            } else if (!line.isEmpty()) {
-                calls++;
-                runRow(file + ":" + (i + 1), house, line);
-            }
-            if (calls > MOST_CALLS) {
-                throw new IllegalArgumentException(file + ": a run of more calls than promised");
+        boolean areDue = true;
+        for (Run.Row row : run.rows) {
+            calls++;
+            areDue &= isDue(house, row, "");
+        }
+        return areDue;
+    }
+
+    private static void statusIsThatOfTheLatestAct(Run run) {
+        PledgeHouse house = new PledgeHouse();
+        String due = "0";
+        for (int i = 0; i < run.rows.size() && i < Run.MOST_CALLS / 2; i++) {
+            Run.Row row = run.rows.get(i);
+            row.call.answerOf(house);
+            due = row.call.isLooking() ? due : row.due;
+            String got = String.valueOf(house.status());
+            if (!got.equals(due)) {
+                tell(row.where + ": status() behind it answered " + got + ", due is " + due);
             }
         }
     }
 
-    private static void runRow(String where, PledgeHouse house, String line) {
-        int split = line.lastIndexOf('=');
-        if (split < 0) {
-            throw new IllegalArgumentException(where + ": no answer is due");
+    private static void othersAnswerAlikeWithoutRefused(Run run) {
+        PledgeHouse house = new PledgeHouse();
+        for (Run.Row row : run.rows) {
+            if (!row.isRefused() && !row.call.name.equals("status")) {
+                isDue(house, row, ", the refused calls left out");
+            }
         }
-        Call call = Call.read(line.substring(0, split).trim());
-        String due = line.substring(split + 1).trim();
-        String got = call.answerOf(house);
-        rows++;
-        if (!got.equals(due)) {
-            wrong++;
-            System.out.println(where + ": " + call + " answered " + got + ", due is " + due);
+    }
+
+    private static void actsAnswerAlikeWithoutLooks(Run run) {
+        PledgeHouse house = new PledgeHouse();
+        for (Run.Row row : run.rows) {
+            if (!row.call.isLooking()) {
+                isDue(house, row, ", the looks left out");
+            }
+        }
+    }
+
+    private static void refusedChangeNothing(Run run) {
+        Looks looks = new Looks(run);
+        List<String> before = null;
+        for (int i = 0; i < run.rows.size(); i++) {
+            Run.Row row = run.rows.get(i);
+            if (row.isRefused()) {
+                refused++;
+                before = before == null ? looks.behind(run.rows.subList(0, i)) : before;
+                List<String> behind = looks.behind(run.rows.subList(0, i + 1));
+                tellChanges(row, before, behind);
+            } else if (!row.call.isLooking()) {
+                before = null;
+            }
+        }
+    }
+
+    private static void tellChanges(Run.Row row, List<String> before, List<String> behind) {
+        if (!before.equals(behind)) {
+            List<String> changed = new ArrayList<>(behind);
+            changed.removeAll(before);
+            tell(row.where + ": " + row.call + " was refused, but behind it " + changed);
         }
     }
 }
