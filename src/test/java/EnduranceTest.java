@@ -49,17 +49,33 @@ public final class EnduranceTest {
         PledgeHouse house = new PledgeHouse();
         for (int number = 1; number <= TICKETS; number++) {
             house.thing(0, 1000);
-            int answer = house.lend(0, 500, 1);
-            int due = number <= ROOM ? number : -7;
-            if (answer != due) {
-                System.out.println("lend(0, 500, 1) answered " + answer + ", due is " + due);
-                System.exit(1);
-            }
+            due("lend(0, 500, 1)", house.lend(0, 500, 1), number <= ROOM ? number : -7);
             house.image();
             house.redeem(number, house.half(), house.told(number, 1) + house.told(number, 2));
             house.back();
             house.redeem(number, house.half(), house.told(number, 1) + house.told(number, 2));
             house.check();
+        }
+        lendWhereNoRoomIs(house);
+    }
+
+    private static void lendWhereNoRoomIs(PledgeHouse house) {
+        due("lend(0, 500, 1), once more", house.lend(0, 500, 1), -7);
+        due("status()", house.status(), -7);
+        due("lend(40, 500, 1)", house.lend(40, 500, 1), -1);
+        due("lend(1, 500, 1), where nothing is", house.lend(1, 500, 1), -2);
+        due("lend(0, 0, 1)", house.lend(0, 0, 1), -6);
+        due("lend(0, 500, 13)", house.lend(0, 500, 13), -6);
+        due("place(0, 2)", house.place(0, 2), 0);
+        due("told(511, 0)", house.told(ROOM, 0), 1);
+        due("told(512, 0)", house.told(ROOM + 1, 0), -1);
+        due("half()", house.half(), 1000 * ROOM + 500);
+    }
+
+    private static void due(String call, long got, long want) {
+        if (got != want) {
+            System.out.println(call + " answered " + got + ", due is " + want);
+            System.exit(1);
         }
     }
 }
