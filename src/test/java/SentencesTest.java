@@ -1,13 +1,10 @@
 import java.io.IOException;
-import java.nio.file.Files;
 import java.nio.file.Path;
 import java.util.ArrayList;
 import java.util.List;
 import java.util.Map;
 import java.util.TreeMap;
 import java.util.TreeSet;
-import java.util.regex.Matcher;
-import java.util.regex.Pattern;
 
 /**
  * Holds the runs against the document: the words that a run under src/test/sentences is for stand in it, no words of
@@ -15,17 +12,13 @@ import java.util.regex.Pattern;
  * promise lists, and for no other.
  */
 public final class SentencesTest {
-    private static final Pattern PROMISE = Pattern.compile("## Promise \\d+: \\w+ `\\w+ (\\w+)\\(.*?\\)`: (.*?)(?=##)");
-    private static final Pattern HEADING = Pattern.compile("==== \\d\\.|## ");
-    private static final Pattern REASON = Pattern.compile("(?<![\\w.])-[1-7](?!\\d)");
-
     /** 511 tickets are out of reach of 512 calls: EnduranceTest goes on behind those. */
     private static final String OUT_OF_REACH = "lend -7";
 
     private static int wrong;
 
     public static void main(String[] arguments) throws IOException {
-        String document = words(Files.readString(Path.of(arguments[1])));
+        Document document = Document.read(arguments[1]);
         List<Run> runs = Run.readAll(Path.of(arguments[0], "sentences"));
         lookForWordsWithoutRuns(document, runs);
         List<Run> all = new ArrayList<>(runs);
@@ -42,17 +35,13 @@ public final class SentencesTest {
         System.out.println(fault);
     }
 
-    private static String words(String text) {
-        return text.replaceAll("(?m)^```.*$", " ").replaceAll("\\s+", " ").trim();
-    }
-
-    private static void lookForWordsWithoutRuns(String document, List<Run> runs) {
-        StringBuilder left = new StringBuilder(document);
+    private static void lookForWordsWithoutRuns(Document document, List<Run> runs) {
+        StringBuilder left = new StringBuilder(document.text);
         for (Run run : runs) {
-            String quoted = words(run.words);
-            int from = document.indexOf(headingOf(run.file));
-            int at = from < 0 || quoted.isEmpty() ? -1 : document.indexOf(quoted, from);
-            if (at < 0 || at > endOfSection(document, from)) {
+            String quoted = Document.words(run.words);
+            int from = document.text.indexOf(headingOf(run.file));
+            int at = from < 0 || quoted.isEmpty() ? -1 : document.text.indexOf(quoted, from);
+            if (at < 0 || at > document.endOfSection(from)) {
                 tell(run.rows.get(0).where + ": these words do not stand in its part of the document: " + quoted);
             } else {
                 left.replace(at, at + quoted.length(), "~".repeat(quoted.length()));
@@ -69,11 +58,6 @@ public final class SentencesTest {
         return "## Promise " + Integer.parseInt(file.substring("promise-".length(), "promise-".length() + 2)) + ":";
     }
 
-    private static int endOfSection(String document, int from) {
-        Matcher heading = HEADING.matcher(document);
-        return heading.find(from + 1) ? heading.start() : document.length();
-    }
-
     private static void tellWordsLeft(String left) {
         String body = left.substring(left.indexOf("## Terms") + "## Terms".length(), left.indexOf("## Not promised"));
         body = body.replaceAll("## Promise \\d+: (A new object|\\w+)", "~").replaceAll("==== \\d\\.", "~");
@@ -85,19 +69,12 @@ public final class SentencesTest {
         }
     }
 
-    private static TreeSet<String> reasonsListed(String document) {
+    private static TreeSet<String> reasonsListed(Document document) {
         TreeSet<String> listed = new TreeSet<>();
-        Matcher promise = PROMISE.matcher(document);
-        int acts = 0;
-        while (promise.find()) {
-            acts++;
-            Matcher reason = REASON.matcher(promise.group(2));
-            while (reason.find()) {
-                listed.add(promise.group(1) + " " + reason.group());
-            }
-        }
-        if (acts != 34) {
-            tell("34 methods are promised, but seen in the document are " + acts);
+        Map<String, TreeSet<String>> promised = document.reasons();
+        promised.forEach((name, reasons) -> reasons.forEach(reason -> listed.add(name + " " + reason)));
+        if (promised.size() != 34) {
+            tell("34 methods are promised, but seen in the document are " + promised.size());
         }
         listed.remove(OUT_OF_REACH);
         return listed;
